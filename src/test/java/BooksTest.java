@@ -203,6 +203,8 @@ public final class BooksTest {
         C.due("99", 99, x.collectorOf(1, 0));
         C.due("whole sum", 4, x.coins(2, 0) == 100 ? x.trade(0, 8, 9900) : 0);
         C.due("9999 there", 9999, x.collectorOf(1, 0));
+        C.due("one gets what makes it 9999", 4, x.trade(8, 0, -9900));
+        C.due("9999 here", 9999, x.collectorOf(0, 0));
     }
 
     private static void tear() {

@@ -231,6 +231,13 @@ public final class TextsTest {
         C.due("fault now", 36, x.fault(0));
         C.due("9th leaf", Check.LIMIT, x.fault(2));
         x.clearText();
+        for (int i = 0; i < 11; i++) {
+            x.name(1, 0);
+        }
+        fine(x, "s10,0,10;s19,1,09;o12,10;o13,07;t12,13;t17,18;");
+        faultIs(x, "s20,0,0;", 0, 2, Check.INVALID);
+        faultIs(x, "s10,0,11;", 0, 2, Check.INVALID);
+        x.clearText();
         C.due("short text in the place of a long one", 1, x.type('l'));
         C.due("it is not what was there", 1, x.fault(1));
         C.due("its length", 1, x.fault(2));

@@ -8,15 +8,18 @@ public final class WhatWouldBeTest {
         gainOfThemes();
         fair();
         fairLimits();
+        fairTogether();
         best();
         bestOfEquals();
         bestPossible();
         missing();
         mean();
         count();
+        countAllBooks();
         richest();
         undo();
         undoAll();
+        undoEach();
         C.end();
     }
 
@@ -145,6 +148,33 @@ public final class WhatWouldBeTest {
         C.due("loss of 0", 100000 - 7 * 375, x.gain(8, 0, 0, 1));
         C.due("1 pays", 10000 + 2626, x.fair(8, 0));
         C.due("0 is paid: not more than 9999", 10000 - 9999, x.fair(0, 8));
+    }
+
+    /** Both together gain 1, so that no coins are enough for both, or 2, so that there are just one's. */
+    private static void fairTogether() {
+        for (int wide = 0; wide <= 1; wide++) {
+            FairBooks x = new FairBooks();
+            x.name(1, 0);
+            x.name(1, 0);
+            x.name(1, 0);
+            x.leaf(0);
+            x.leaf(0);
+            x.leaf(1);
+            x.leaf(1);
+            x.sign(0, 0, 0);
+            x.sign(0, 1, 1);
+            x.sign(1, 0, 0);
+            if (wide == 1) {
+                x.over(2, 1);
+            } else {
+                x.sign(2, 1, 1);
+            }
+            x.dedicate(2, 1, 3);
+            C.due("gain of one, " + wide, 100000 - 3 + wide, x.gain(1, 2, 0, 0));
+            C.due("gain of the other one, " + wide, 100000 + 5 - 2 * wide, x.gain(1, 2, 0, 1));
+            C.due("fair, " + wide, wide == 1 ? Check.NOT_FOUND : 10000 - 4, x.fair(1, 2));
+            C.due("fair, turned, " + wide, wide == 1 ? Check.NOT_FOUND : 10000 + 4, x.fair(2, 1));
+        }
     }
 
     private static void best() {
@@ -327,6 +357,27 @@ public final class WhatWouldBeTest {
         C.due("all worths", 150 + 100, x.count(6));
     }
 
+    private static void countAllBooks() {
+        FairBooks x = new FairBooks();
+        x.name(1, 0);
+        x.name(1, 0);
+        for (int c = 0; c < 4; c++) {
+            for (int i = 0; i <= c; i++) {
+                int leaf = x.leaf(c);
+                x.sign(leaf, 0, 0);
+                if (i == 0) {
+                    x.dedicate(leaf, 0, c);
+                }
+            }
+        }
+        C.due("leaves of all", 10, x.count(1));
+        C.due("entries of all", 10, x.count(2));
+        C.due("worths of all", 20 + 25 + 30 + 35, x.count(6));
+        C.due("dedicated of all", 4, x.count(7));
+        C.due("entries of the name", 10, x.nameOf(0, 2));
+        C.due("its owners", 15, x.nameOf(0, 3));
+    }
+
     private static void richest() {
         FairBooks x = new FairBooks();
         C.due("all alike", 0, x.count(5));
@@ -413,5 +464,70 @@ public final class WhatWouldBeTest {
         x.dedicate(2, 1, 0);
         x.undo();
         C.due("dedicated", Check.NOT_FOUND, x.pageOf(2, 1, 1));
+    }
+
+    /** Each kind of change behind another change, so that undo must bring back just what was between them. */
+    private static void undoEach() {
+        FairBooks x = crossed();
+        x.leaf(0);
+        x.sign(2, 1, 0);
+        Check.write(x, "l3;");
+        for (int kind = 0; kind < 10; kind++) {
+            x.coins(3, 200 + kind);
+            int all = sum(x);
+            int returned = change(x, kind);
+            C.due("change " + kind, 1, returned >= 0 ? 1 : 0);
+            C.due("states behind change " + kind, 4, x.count(8));
+            C.due("undo of change " + kind, 3, x.undo());
+            C.due("coins then " + kind, 200 + kind, x.collectorOf(3, 0));
+            C.due("all then " + kind, all, sum(x));
+            x.coins(3, 300 + kind);
+            x.coins(2, kind);
+        }
+    }
+
+    private static int change(FairBooks x, int kind) {
+        switch (kind) {
+            case 0:
+                return x.name(5, 2);
+            case 1:
+                return x.leaf(1);
+            case 2:
+                return x.sign(2, 0, 1);
+            case 3:
+                return x.over(0, 1);
+            case 4:
+                return x.dedicate(2, 1, 3);
+            case 5:
+                return x.move(2, 0);
+            case 6:
+                return x.trade(0, 1, 3);
+            case 7:
+                return x.tear(0);
+            case 8:
+                return x.coins(0, 7);
+            default:
+                return x.play();
+        }
+    }
+
+    /** A number that would hardly stay the same if something in the books were another. */
+    private static int sum(FairBooks x) {
+        int sum = 0;
+        for (int what = 0; what < 8; what++) {
+            sum = 31 * sum + x.count(what);
+        }
+        for (int c = 0; c < 4; c++) {
+            for (int what = 0; what <= 8; what++) {
+                sum = 31 * sum + x.collectorOf(c, what);
+            }
+            for (int place = 0; place < 8; place++) {
+                int leaf = x.at(c, place);
+                for (int page = 0; page < 8; page++) {
+                    sum = 31 * sum + leaf + x.pageOf(leaf, page / 4, page % 4);
+                }
+            }
+        }
+        return sum;
     }
 }

@@ -74,9 +74,6 @@ public final class TextsTest {
     }
 
     private static void badForm() {
-        FairBooks x = new FairBooks();
-        x.name(1, 0);
-        x.leaf(0);
         String[] texts = {
             ";", "x", " ", "L0;", "0", ",", "l", "l;", "l,", "l-1;", "l0", "l0,", "l0 ;", "l00", "l000;", "l0;;", "l0; l0;",
             "s", "s,", "s0", "s0;", "s00;", "s0,", "s0,;", "s0,0;", "s0,0,", "s0,0,;", "s0,0,0", "s0,0,0,", "s0,0,000;",
@@ -92,6 +89,9 @@ public final class TextsTest {
             2, 3, 3, 4, 4, 6, 2, 3, 4, 4, 6, 1, 3, 3
         };
         for (int i = 0; i < texts.length; i++) {
+            FairBooks x = new FairBooks();
+            x.name(1, 0);
+            x.leaf(0);
             faultIs(x, texts[i], texts[i].length() > 3 && texts[i].substring(0, 3).equals("l0;") ? 3 : 0, 1, causes[i]);
         }
         FairBooks y = new FairBooks();

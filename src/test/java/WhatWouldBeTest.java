@@ -468,11 +468,11 @@ public final class WhatWouldBeTest {
 
     /** Each kind of change behind another change, so that undo must bring back just what was between them. */
     private static void undoEach() {
-        FairBooks x = crossed();
-        x.leaf(0);
-        x.sign(2, 1, 0);
-        Check.write(x, "l3;");
         for (int kind = 0; kind < 10; kind++) {
+            FairBooks x = crossed();
+            x.leaf(0);
+            x.sign(2, 1, 0);
+            Check.write(x, "l3;");
             x.coins(3, 200 + kind);
             int all = sum(x);
             int returned = change(x, kind);
@@ -481,8 +481,6 @@ public final class WhatWouldBeTest {
             C.due("undo of change " + kind, 3, x.undo());
             C.due("coins then " + kind, 200 + kind, x.collectorOf(3, 0));
             C.due("all then " + kind, all, sum(x));
-            x.coins(3, 300 + kind);
-            x.coins(2, kind);
         }
     }
 
@@ -521,7 +519,7 @@ public final class WhatWouldBeTest {
             for (int what = 0; what <= 8; what++) {
                 sum = 31 * sum + x.collectorOf(c, what);
             }
-            for (int place = 0; place < 8; place++) {
+            for (int place = x.collectorOf(c, 1) - 1; place >= 0; place--) {
                 int leaf = x.at(c, place);
                 for (int page = 0; page < 8; page++) {
                     sum = 31 * sum + leaf + x.pageOf(leaf, page / 4, page % 4);

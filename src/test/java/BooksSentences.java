@@ -329,6 +329,28 @@ final class BooksSentences extends Sentences {
         x.tear(3);
         book("none is left", x, 0);
         due("no worth is left", 0, x.collectorOf(0, 3));
+        nothingOfItCounts();
+    }
+
+    private void nothingOfItCounts() {
+        FairBooks x = named(0, 1);
+        leaves(x, 0, 3);
+        x.sign(0, 0, 0);
+        x.sign(2, 0, 1);
+        x.dedicate(2, 0, 0);
+        x.sign(2, 1, 1);
+        x.dedicate(2, 1, 3);
+        x.tear(2);
+        int[] of0 = {100, 2, 1, 125, 225, 1, 1, 2, 0};
+        for (int what = 0; what <= 8; what++) {
+            due("collectorOf(0, " + what + ") without it", of0[what], x.collectorOf(0, what));
+        }
+        due("entries of its name", 0, x.nameOf(1, 2));
+        due("books with its name", 0, x.nameOf(1, 3));
+        due("its name is missing", 2, x.missing(0, 1));
+        due("the mean without it", Float.floatToIntBits(100f), x.mean(0));
+        due("all entries without it", 1, x.count(2));
+        due("all dedicated ones without it", 0, x.count(7));
     }
 
     private void tearLeaf() {

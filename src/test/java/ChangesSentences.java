@@ -17,6 +17,7 @@ final class ChangesSentences extends Sentences {
         changes();
         recorded();
         historyOfFour();
+        oldestIsDropped();
         notPossibleBehindInvalid();
         limitBehindInvalid();
         limitBehindNotPossible();
@@ -199,6 +200,9 @@ final class ChangesSentences extends Sentences {
             x.coins(0, i);
             due("states behind change " + i, 4, x.count(8));
         }
+    }
+
+    private void oldestIsDropped() {
         of("Changes and errors", "and if there are 5 states then, the oldest one is dropped.");
         for (int i = 4; i <= 6; i++) {
             FairBooks y = new FairBooks();

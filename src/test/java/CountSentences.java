@@ -401,6 +401,7 @@ final class CountSentences extends Sentences {
         y.undo();
         due("what was undone does not come again", 100, y.collectorOf(0, 0));
         due("no more", NOT_POSSIBLE, y.undo());
+        undoAmidChanges();
         FairBooks z = named(0);
         z.leaf(1);
         z.undo();
@@ -411,6 +412,23 @@ final class CountSentences extends Sentences {
         z.undo();
         due("a leaf that was torn out is back", 2, z.leafOf(0, 0));
         due("with its entry", 0, z.pageOf(0, 0, 0));
+    }
+
+    private void undoAmidChanges() {
+        FairBooks x = new FairBooks();
+        for (int coins = 1; coins <= 5; coins++) {
+            x.coins(0, coins);
+        }
+        x.undo();
+        for (int coins = 6; coins <= 8; coins++) {
+            x.coins(0, coins);
+        }
+        int[] due = {7, 6, 4, 3};
+        for (int i = 0; i < 4; i++) {
+            due("left of changes behind undo()", 3 - i, x.undo());
+            due("coins behind " + (i + 1) + " more", due[i], x.collectorOf(0, 0));
+        }
+        due("all of them are undone", NOT_POSSIBLE, x.undo());
     }
 
     private void undoReturns() {

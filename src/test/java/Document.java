@@ -1,7 +1,3 @@
-import java.io.IOException;
-import java.nio.charset.StandardCharsets;
-import java.nio.file.Files;
-import java.nio.file.Path;
 import java.util.ArrayList;
 import java.util.LinkedHashMap;
 import java.util.List;
@@ -19,9 +15,9 @@ final class Document {
     private final Map<String, String> sections = new LinkedHashMap<>();
     private final Map<String, List<String>> quotes = new LinkedHashMap<>();
 
-    Document(Path path) throws IOException {
+    Document(String text) {
         String section = "";
-        for (String line : Files.readString(path, StandardCharsets.UTF_8).split("\n")) {
+        for (String line : text.split("\n")) {
             if (line.startsWith("#")) {
                 section = List.of(NOT_SENTENCES).contains(line) ? "" : line.replaceAll("^#+ ", "").replaceAll("^(Promise \\d+):.*", "$1");
                 sections.put(section, "");

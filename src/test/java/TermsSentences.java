@@ -554,5 +554,25 @@ final class TermsSentences extends Sentences {
         due("a gain of 0 of the other one", 100000, y.gain(0, 2, 0, 1));
         due("none is liked", NOT_FOUND, y.best(0, 2));
         due("nor with coins", NOT_FOUND, y.fair(0, 2));
+        likedByOne();
+    }
+
+    /** The other one gains just 1: one half of 7 for one half of 5, both rounded down. */
+    private void likedByOne() {
+        FairBooks x = new FairBooks();
+        x.name(1, 0);
+        x.name(1, 0);
+        leaves(x, 0, 2);
+        leaves(x, 1, 2);
+        x.over(0, 0);
+        x.dedicate(0, 1, 3);
+        x.sign(2, 0, 0);
+        x.sign(3, 0, 0);
+        x.dedicate(3, 0, 0);
+        due("20 for 7", 100013, x.gain(0, 3, 0, 0));
+        due("3 for 2", 100001, x.gain(0, 3, 0, 1));
+        due("a gain of 1 is liked by the other one", 13, x.best(0, 2));
+        due("a gain of 1 is liked by oneself", 1, x.best(1, 2));
+        due("a coin more is not", 100000, x.gain(0, 3, -1, 1));
     }
 }

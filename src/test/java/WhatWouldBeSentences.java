@@ -553,6 +553,11 @@ final class WhatWouldBeSentences extends Sentences {
         due("no own leaves", NOT_FOUND, x.best(1, 0));
         x.leaf(1);
         due("nothing to gain", NOT_FOUND, x.best(0, 0));
+        x.name(10, 0);
+        x.sign(0, 0, 0);
+        x.sign(1, 0, 0);
+        x.dedicate(1, 0, 0);
+        due("nothing by one's own bundles, though another order is worth more", NOT_FOUND, x.best(0, 0));
         FairBooks y = crossed();
         due("one", 350, y.best(0, 2));
         y.tear(0);

@@ -565,6 +565,22 @@ final class WhatWouldBeSentences extends Sentences {
         due("none for the other one", NOT_FOUND, y.best(1, 2));
         y.undo();
         due("one again", 350, y.best(0, 2));
+        giftIsNone();
+    }
+
+    /** Without the leaf 0 the leaf 1 would be worth more, and 1 would like to have it, but has nothing to give. */
+    private void giftIsNone() {
+        FairBooks x = named(0, 0);
+        leaves(x, 0, 2);
+        x.sign(0, 0, 0);
+        x.dedicate(0, 0, 1);
+        x.sign(1, 0, 0);
+        x.dedicate(1, 0, 0);
+        due("a gift is none", NOT_FOUND, x.best(0, 0));
+        due("nor for whom would get it", NOT_FOUND, x.best(1, 0));
+        x.leaf(1);
+        due("for an empty leaf", 50, x.best(0, 2));
+        due("for an empty leaf of one's own", 200, x.best(1, 2));
     }
 
     private void missingReturns() {

@@ -393,6 +393,24 @@ final class WhatWouldBeSentences extends Sentences {
             due("and so for the other one", more == 0 ? 1 : NOT_FOUND, x.best(1, 0));
             due("trade()", more == 0 ? 3 : LIMIT, x.trade(0, 1, 0));
         }
+        for (int c = 0; c < 4; c++) {
+            bestWithinBook(c);
+        }
+    }
+
+    /** A book with either leaf twice would be worth more than as it is, but both are of the same one. */
+    private void bestWithinBook(int c) {
+        FairBooks x = named(0);
+        leaves(x, c, 2);
+        x.sign(0, 0, 0);
+        x.dedicate(0, 0, (c + 1) % 4);
+        x.sign(0, 1, 0);
+        x.dedicate(0, 1, c);
+        x.sign(1, 0, 0);
+        due("50, 100, 100 and 25 of " + c, 275, x.dedicate(1, 0, c));
+        due("trade in the book of " + c, NOT_POSSIBLE, x.trade(0, 1, 0));
+        due("best(" + c + ", 0) with no other book", NOT_FOUND, x.best(c, 0));
+        due("best(" + c + ", 2) with no other book", NOT_FOUND, x.best(c, 2));
     }
 
     private void bestGreatest() {
